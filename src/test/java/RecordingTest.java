@@ -215,6 +215,9 @@ public final class RecordingTest {
         x.sound(1, 2, 0);
         x.sentence(0, 65);
         C.due("7 channel 1 is not in store 2: 14 bytes", pagesOfClosing(x, 2), 1);
+        x.sound(0, 0, 0);
+        x.sentence(0, 0x41414141);
+        C.due("7 17 bytes", pagesOfClosing(x, 0), 2);
         VoyageKeeper y = new VoyageKeeper();
         Ship.fillFivePages(y);
         y.second(1);

@@ -10,6 +10,7 @@ public final class StoresTest {
         failing();
         spoiling();
         writtenAgain();
+        freedButNotWritten();
         unreadables();
         C.end("StoresTest");
     }
@@ -142,6 +143,23 @@ public final class StoresTest {
         C.due("25 second 0 went", x.kept(2, false), 1);
         C.yes("25 page 0 is of second 10, and readable", x.has(2, 10));
         C.due("26 none", x.unreadable(2), 0);
+    }
+
+    /** A page stays unreadable when its bundle is taken out, until it is written. */
+    private static void freedButNotWritten() {
+        VoyageKeeper x = new VoyageKeeper();
+        Ship.fillTwoPages(x);
+        x.second(1);
+        x.spoil(2, 1);
+        for (int t = 2; t <= 10; t++) {
+            x.second(t);
+        }
+        C.due("13 page 1 is free", x.free(2), 1);
+        C.no("25 and still not readable", x.spoil(2, 1));
+        x.second(11);
+        C.yes("25 written again", x.has(2, 10));
+        C.yes("25 so it can be spoiled", x.spoil(2, 1));
+        C.no("25 it was second 10's", x.has(2, 10));
     }
 
     private static void unreadables() {
