@@ -36,7 +36,10 @@ public final class FaceTest {
     };
 
     public static void main(String[] args) {
-        Check check = new Check();
+        Check.runCases(FaceTest.class);
+    }
+
+    static void methods() {
         TreeSet<String> due = new TreeSet<>(Arrays.asList(FACE));
         TreeSet<String> seen = new TreeSet<>();
         for (Method method : VoyageKeeper.class.getDeclaredMethods()) {
@@ -44,17 +47,43 @@ public final class FaceTest {
                 seen.add(told(method));
             }
         }
-        check.yes("the methods are " + seen, seen.equals(due));
+        Check.yes("the methods are " + seen, seen.equals(due));
+    }
+
+    static void noPrivateMethodBearsThePublicNames() {
+        TreeSet<String> names = new TreeSet<>();
+        for (Method method : VoyageKeeper.class.getMethods()) {
+            names.add(method.getName());
+        }
+        for (Method method : VoyageKeeper.class.getDeclaredMethods()) {
+            boolean isPrivate = Modifier.isPrivate(method.getModifiers());
+            Check.no(method.getName(), isPrivate && names.contains(method.getName()));
+        }
+    }
+
+    static void fields() {
         for (Field field : VoyageKeeper.class.getDeclaredFields()) {
             boolean isConstant = field.getName().equals("NONE");
-            check.yes(field.getName(), isConstant != Modifier.isPrivate(field.getModifiers()));
+            Check.yes(field.getName(), isConstant != Modifier.isPrivate(field.getModifiers()));
         }
+    }
+
+    static void constantIsPublic() throws NoSuchFieldException {
+        int modifiers = VoyageKeeper.class.getField("NONE").getModifiers();
+        Check.yes("static", Modifier.isStatic(modifiers));
+        Check.yes("final", Modifier.isFinal(modifiers));
+    }
+
+    static void constructors() {
         Constructor<?>[] constructors = VoyageKeeper.class.getDeclaredConstructors();
-        check.due("constructors", constructors.length, 1);
-        check.yes("public", Modifier.isPublic(constructors[0].getModifiers()));
-        check.due("its parameters", constructors[0].getParameterCount(), 0);
-        check.yes("final", Modifier.isFinal(VoyageKeeper.class.getModifiers()));
-        check.end("FaceTest");
+        Check.due("constructors", constructors.length, 1);
+        Check.yes("public", Modifier.isPublic(constructors[0].getModifiers()));
+        Check.due("its parameters", constructors[0].getParameterCount(), 0);
+    }
+
+    static void classIsPublicAndFinal() {
+        Check.yes("public", Modifier.isPublic(VoyageKeeper.class.getModifiers()));
+        Check.yes("final", Modifier.isFinal(VoyageKeeper.class.getModifiers()));
     }
 
     private static String told(Method method) {

@@ -1,135 +1,490 @@
 /** Promises 15 to 21: replay, what is loaded, and the search. */
 public final class ReplayTest {
-    private static final Check C = new Check();
+    private static final int NONE = VoyageKeeper.NONE;
+    private static final int STRIPES = Ship.STRIPES;
+    private static final int[] NO_STORES = {-1, 3, Integer.MIN_VALUE, Integer.MAX_VALUE};
 
     public static void main(String[] args) {
-        nothingLoaded();
-        loading();
-        whatIsLoadedStays();
-        soundOfTheThirdStore();
-        rowsWithoutPictures();
-        rowsOfChanges();
-        rowsOfRunsAndTies();
-        rowsOfAnotherMinute();
-        likePictureIsNotTheBase();
-        formerPictureOfAllStores();
-        finding();
-        C.end("ReplayTest");
+        Check.runCases(ReplayTest.class);
     }
 
-    private static void nothingLoaded() {
+    /** Second 0 with a bit of everything is loaded from a store, and second 1 is under way. */
+    private static VoyageKeeper loadedFrom(int store) {
         VoyageKeeper x = new VoyageKeeper();
-        x.paint(0, 9);
-        x.show();
-        x.sentence(2, 65);
-        x.second(1);
-        C.due("15 no such store", x.replay(3, 0), -1);
-        C.due("15 store -1", x.replay(-1, 0), -1);
-        C.due("15 no such second", x.replay(0, 1), -1);
-        C.due("15 second -1", x.replay(0, -1), -1);
-        C.due("16 nothing", x.outSentence(0), 0);
-        C.due("17 nothing", x.outSource(0), -1);
-        C.due("18 nothing", x.outSound(1, 3), 0);
-        C.due("18 no such byte", x.outSound(0, 4), -1);
-        C.due("19 nothing", x.outContacts(), 0);
-        C.due("20 nothing", x.outRow(0), 0);
-        C.due("20 no row -1", x.outRow(-1), -1);
-        C.due("20 no row 8", x.outRow(8), -1);
-    }
-
-    private static void loading() {
-        VoyageKeeper x = new VoyageKeeper();
-        x.sentence(3, Ship.LONG_TEXT);
+        x.sentence(3, Ship.text(8));
         x.sentence(1, 0x7e20);
         x.sound(0, 3, 200);
         x.sound(1, 0, 255);
         x.contact(0, true);
         x.contact(15, true);
-        x.second(1);
-        C.due("15 two sentences", x.replay(1, 0), 2);
-        C.due("16 first", x.outSentence(0), Ship.LONG_TEXT);
-        C.due("16 second", x.outSentence(1), 0x7e20);
-        C.due("16 none at 2", x.outSentence(2), 0);
-        C.due("16 none at -1", x.outSentence(-1), 0);
-        C.due("16 none at 4", x.outSentence(4), 0);
-        C.due("17 first", x.outSource(0), 3);
-        C.due("17 second", x.outSource(1), 1);
-        C.due("17 none at 2", x.outSource(2), -1);
-        C.due("17 none at -1", x.outSource(-1), -1);
-        C.due("17 none at 4", x.outSource(4), -1);
-        C.due("18 channel 0", x.outSound(0, 3), 200);
-        C.due("18 channel 1", x.outSound(1, 0), 255);
-        C.due("18 where none came", x.outSound(1, 3), 0);
-        C.due("18 no channel -1", x.outSound(-1, 0), -1);
-        C.due("18 no channel 2", x.outSound(2, 0), -1);
-        C.due("18 no byte -1", x.outSound(0, -1), -1);
-        C.due("18 no byte 4", x.outSound(0, 4), -1);
-        C.due("19 sum", x.outContacts(), 0x8001);
-    }
-
-    private static void whatIsLoadedStays() {
-        VoyageKeeper x = new VoyageKeeper();
-        x.sentence(3, 65);
-        x.sound(0, 0, 8);
-        x.contact(1, true);
-        x.paint(0, 9);
+        x.paint(7, 0x1234);
         x.show();
         x.second(1);
-        x.replay(0, 0);
-        C.due("15 none such", x.replay(0, 7), -1);
-        x.spoil(0, 0);
-        C.due("15 unreadable", x.replay(0, 0), -1);
-        for (int t = 2; t <= 60; t++) {
-            x.second(t);
+        x.replay(store, 0);
+        return x;
+    }
+
+    private static void isStillLoaded(VoyageKeeper x) {
+        Check.due("outSentence(0)", x.outSentence(0), Ship.text(8));
+        Check.due("outSentence(1)", x.outSentence(1), 0x7e20);
+        Check.due("outSource(0)", x.outSource(0), 3);
+        Check.due("outSound(0, 3)", x.outSound(0, 3), 200);
+        Check.due("outSound(1, 0)", x.outSound(1, 0), 255);
+        Check.due("outContacts()", x.outContacts(), 0x8001);
+        Check.due("outRow(7)", x.outRow(7), 0x1234);
+    }
+
+    // Promise 15: "Loads the readable bundle of a second from a store"; "Answers how many sentences it has"
+
+    static void replayAnswersHowManySentences() {
+        int[][] lengths = {{}, {1}, {1, 1}, {1, 1, 1}, {1, 1, 1, 1}};
+        for (int count = 0; count <= 4; count++) {
+            VoyageKeeper x = new VoyageKeeper();
+            Ship.say(x, lengths[count]);
+            x.second(1);
+            for (int store = 0; store < 3; store++) {
+                Check.due("replay(" + store + ", 0)", x.replay(store, 0), count);
+            }
         }
-        C.due("15 gone", x.replay(0, 0), -1);
+    }
+
+    static void replayLoadsAll() {
+        isStillLoaded(loadedFrom(0));
+        isStillLoaded(loadedFrom(1));
+    }
+
+    // "in place of what was loaded"
+
+    static void replayOfAnotherSecondTakesThePlace() {
+        VoyageKeeper x = loadedFrom(0);
+        x.contact(0, false);
+        x.contact(15, false);
+        x.second(12);
+        x.second(13);
+        Check.due("replay(0, 12)", x.replay(0, 12), 0);
+        Check.due("outSentence(0)", x.outSentence(0), 0);
+        Check.due("outSource(0)", x.outSource(0), NONE);
+        Check.due("outSound(0, 3)", x.outSound(0, 3), 0);
+        Check.due("outSound(1, 0)", x.outSound(1, 0), 0);
+        Check.due("outContacts()", x.outContacts(), 0);
+        Check.due("outRow(7)", x.outRow(7), 0);
+    }
+
+    // "NONE when there is none such (what was loaded stays)"
+
+    static void replayOfNoSuchStore() {
+        VoyageKeeper x = loadedFrom(0);
+        for (int store : NO_STORES) {
+            Check.due("replay(" + store + ", 0)", x.replay(store, 0), NONE);
+        }
+        isStillLoaded(x);
+    }
+
+    static void replayOfTheSecondUnderWay() {
+        VoyageKeeper x = loadedFrom(0);
+        Check.due("replay(0, 1)", x.replay(0, 1), NONE);
+        isStillLoaded(x);
+    }
+
+    static void replayOfASecondThatWasLeftOut() {
+        VoyageKeeper x = loadedFrom(0);
+        x.second(9);
+        Check.due("replay(0, 5)", x.replay(0, 5), NONE);
+        isStillLoaded(x);
+    }
+
+    static void replayOfSecondsFarOff() {
+        VoyageKeeper x = loadedFrom(0);
+        Check.due("replay(0, -1)", x.replay(0, -1), NONE);
+        Check.due("replay(0, MIN)", x.replay(0, Integer.MIN_VALUE), NONE);
+        Check.due("replay(0, 10000)", x.replay(0, 10000), NONE);
+        Check.due("replay(0, MAX)", x.replay(0, Integer.MAX_VALUE), NONE);
+        isStillLoaded(x);
+    }
+
+    static void replayOfAnUnreadableBundle() {
+        VoyageKeeper x = loadedFrom(0);
+        x.spoil(0, 0);
+        Check.due("replay(0, 0)", x.replay(0, 0), NONE);
+        isStillLoaded(x);
+    }
+
+    static void replayOfABundleTakenOut() {
+        VoyageKeeper x = loadedFrom(0);
+        Ship.closeSeconds(x, 45);
+        Check.due("replay(0, 0)", x.replay(0, 0), NONE);
+        isStillLoaded(x);
+    }
+
+    static void replayOfASecondThatAFailedStoreDidNotGet() {
+        VoyageKeeper x = loadedFrom(0);
+        x.fail(2, true);
+        x.second(2);
+        Check.due("replay(2, 1)", x.replay(2, 1), NONE);
+        isStillLoaded(x);
+    }
+
+    static void whatIsLoadedStaysThroughACut() {
+        VoyageKeeper x = loadedFrom(0);
         x.cutAfter(0);
-        x.second(61);
-        C.due("16 stays", x.outSentence(0), 65);
-        C.due("17 stays", x.outSource(0), 3);
-        C.due("18 stays", x.outSound(0, 0), 8);
-        C.due("19 stays", x.outContacts(), 2);
-        C.due("20 stays", x.outRow(0), 9);
-        C.due("15 with power off", x.replay(0, 59), 0);
-        C.due("16 replaced", x.outSentence(0), 0);
-        C.due("18 replaced", x.outSound(0, 0), 0);
-        C.due("20 replaced", x.outRow(0), 0);
+        x.second(2);
+        isStillLoaded(x);
+        x.start();
+        isStillLoaded(x);
     }
 
-    private static void soundOfTheThirdStore() {
+    static void whatIsLoadedStaysAsMoreComesIn() {
+        VoyageKeeper x = loadedFrom(0);
+        Ship.fillFivePages(x);
+        x.contact(7, true);
+        x.second(2);
+        isStillLoaded(x);
+    }
+
+    static void replayWithPowerOff() {
+        VoyageKeeper x = loadedFrom(0);
+        x.second(2);
+        x.cutAfter(0);
+        x.second(3);
+        Check.due("replay(0, 1)", x.replay(0, 1), 0);
+        Check.due("replay(0, 2)", x.replay(0, 2), NONE);
+        Check.due("replay(0, 0)", x.replay(0, 0), 2);
+        isStillLoaded(x);
+    }
+
+    // Promise 16: "Sentence k (from 0) that is loaded, as it came; 0 when there is none."
+
+    static void outSentenceInOrder() {
         VoyageKeeper x = new VoyageKeeper();
-        x.sound(0, 1, 5);
-        x.sound(1, 1, 6);
+        Ship.say(x, 4, 1, 8, 2);
         x.second(1);
-        x.replay(2, 0);
-        C.due("18 channel 0 in store 2", x.outSound(0, 1), 5);
-        C.due("18 channel 1 not in store 2", x.outSound(1, 1), 0);
-        C.due("18 no byte all the same", x.outSound(1, 4), -1);
-        x.replay(1, 0);
-        C.due("18 channel 1 in store 1", x.outSound(1, 1), 6);
+        x.replay(0, 0);
+        int[] signs = {4, 1, 8, 2};
+        for (int k = 0; k < 4; k++) {
+            Check.due("outSentence(" + k + ")", x.outSentence(k), Ship.text(signs[k]));
+        }
     }
 
-    private static void rowsWithoutPictures() {
+    static void outSentenceOfMinus1() {
+        Check.due("outSentence(-1)", loadedFrom(0).outSentence(-1), 0);
+    }
+
+    static void outSentenceBehindTheLast() {
+        Check.due("outSentence(2)", loadedFrom(0).outSentence(2), 0);
+    }
+
+    static void outSentence4OfFour() {
+        VoyageKeeper x = new VoyageKeeper();
+        Ship.say(x, 1, 1, 1, 1);
+        x.second(1);
+        x.replay(0, 0);
+        Check.due("outSentence(3)", x.outSentence(3), 65);
+        Check.due("outSentence(4)", x.outSentence(4), 0);
+    }
+
+    static void outSentenceFarOff() {
+        VoyageKeeper x = loadedFrom(0);
+        for (int far : Ship.FAR_OFF) {
+            Check.due("outSentence(" + far + ")", x.outSentence(far), 0);
+        }
+    }
+
+    static void outSentenceOfNothingLoaded() {
+        VoyageKeeper x = new VoyageKeeper();
+        x.sentence(0, 65);
+        x.second(1);
+        for (int k = -1; k <= 4; k++) {
+            Check.due("outSentence(" + k + ")", x.outSentence(k), 0);
+        }
+    }
+
+    // Promise 17: "The source of sentence k that is loaded; NONE when there is none."
+
+    static void outSourceInOrder() {
+        VoyageKeeper x = new VoyageKeeper();
+        int[] sources = {3, 0, 0, 2};
+        for (int source : sources) {
+            x.sentence(source, 65);
+        }
+        x.second(1);
+        x.replay(0, 0);
+        for (int k = 0; k < 4; k++) {
+            Check.due("outSource(" + k + ")", x.outSource(k), sources[k]);
+        }
+    }
+
+    static void outSourceOfMinus1() {
+        Check.due("outSource(-1)", loadedFrom(0).outSource(-1), NONE);
+    }
+
+    static void outSourceBehindTheLast() {
+        Check.due("outSource(2)", loadedFrom(0).outSource(2), NONE);
+    }
+
+    static void outSource4OfFour() {
+        VoyageKeeper x = new VoyageKeeper();
+        Ship.say(x, 1, 1, 1, 1);
+        x.second(1);
+        x.replay(0, 0);
+        Check.due("outSource(3)", x.outSource(3), 3);
+        Check.due("outSource(4)", x.outSource(4), NONE);
+    }
+
+    static void outSourceFarOff() {
+        VoyageKeeper x = loadedFrom(0);
+        for (int far : Ship.FAR_OFF) {
+            Check.due("outSource(" + far + ")", x.outSource(far), NONE);
+        }
+    }
+
+    static void outSourceOfNothingLoaded() {
+        VoyageKeeper x = new VoyageKeeper();
+        x.sentence(0, 65);
+        x.second(1);
+        for (int k = -1; k <= 4; k++) {
+            Check.due("outSource(" + k + ")", x.outSource(k), NONE);
+        }
+    }
+
+    // Promise 18: "Byte k of a channel's sound that is loaded (0 where none is)"
+
+    static void outSoundWhereNoneCame() {
+        VoyageKeeper x = loadedFrom(0);
+        Check.due("outSound(0, 0)", x.outSound(0, 0), 0);
+        Check.due("outSound(1, 3)", x.outSound(1, 3), 0);
+    }
+
+    static void outSoundOfNothingLoaded() {
+        VoyageKeeper x = new VoyageKeeper();
+        x.sound(0, 0, 7);
+        x.second(1);
+        for (int k = 0; k < 4; k++) {
+            Check.due("outSound(0, " + k + ")", x.outSound(0, k), 0);
+            Check.due("outSound(1, " + k + ")", x.outSound(1, k), 0);
+        }
+    }
+
+    static void outSoundOfChannel1FromStore2() {
+        VoyageKeeper x = loadedFrom(2);
+        Check.due("outSound(1, 0)", x.outSound(1, 0), 0);
+        Check.due("outSound(0, 3)", x.outSound(0, 3), 200);
+        x.replay(1, 0);
+        Check.due("outSound(1, 0) from store 1", x.outSound(1, 0), 255);
+    }
+
+    // "NONE when there is no such channel or byte"
+
+    static void outSoundOfChannelMinus1() {
+        Check.due("outSound(-1, 0)", loadedFrom(0).outSound(-1, 0), NONE);
+    }
+
+    static void outSoundOfChannel2() {
+        Check.due("outSound(2, 0)", loadedFrom(0).outSound(2, 0), NONE);
+    }
+
+    static void outSoundOfByteMinus1() {
+        VoyageKeeper x = loadedFrom(0);
+        Check.due("outSound(0, -1)", x.outSound(0, -1), NONE);
+        Check.due("outSound(1, -1)", x.outSound(1, -1), NONE);
+    }
+
+    static void outSoundOfByte4() {
+        VoyageKeeper x = loadedFrom(0);
+        Check.due("outSound(0, 4)", x.outSound(0, 4), NONE);
+        Check.due("outSound(1, 4)", x.outSound(1, 4), NONE);
+    }
+
+    static void outSoundOfNoSuchByteFromStore2() {
+        VoyageKeeper x = loadedFrom(2);
+        Check.due("outSound(1, -1)", x.outSound(1, -1), NONE);
+        Check.due("outSound(1, 4)", x.outSound(1, 4), NONE);
+    }
+
+    static void outSoundOfNoSuchByteOfNothingLoaded() {
+        VoyageKeeper x = new VoyageKeeper();
+        Check.due("outSound(-1, 0)", x.outSound(-1, 0), NONE);
+        Check.due("outSound(2, 0)", x.outSound(2, 0), NONE);
+        Check.due("outSound(0, -1)", x.outSound(0, -1), NONE);
+        Check.due("outSound(0, 4)", x.outSound(0, 4), NONE);
+    }
+
+    static void outSoundFarOff() {
+        VoyageKeeper x = loadedFrom(0);
+        for (int far : Ship.FAR_OFF) {
+            Check.due("outSound(" + far + ", 0)", x.outSound(far, 0), NONE);
+            Check.due("outSound(0, " + far + ")", x.outSound(0, far), NONE);
+        }
+    }
+
+    // Promise 19: "The contacts that are loaded, as the sum of 2^contact."
+
+    static void outContactsOfNothingLoaded() {
+        VoyageKeeper x = new VoyageKeeper();
+        x.contact(3, true);
+        x.second(1);
+        Check.due("outContacts()", x.outContacts(), 0);
+    }
+
+    static void outContactsWithAllOff() {
+        VoyageKeeper x = Ship.at(1);
+        x.replay(0, 0);
+        Check.due("outContacts()", x.outContacts(), 0);
+    }
+
+    static void outContactsFromEachStore() {
+        for (int store = 0; store < 3; store++) {
+            Check.due("outContacts()", loadedFrom(store).outContacts(), 0x8001);
+        }
+    }
+
+    // Promise 20: "NONE when there is no such row"
+
+    private static void hasNoOtherRows(VoyageKeeper x) {
+        Check.due("outRow(-1)", x.outRow(-1), NONE);
+        Check.due("outRow(8)", x.outRow(8), NONE);
+        for (int far : Ship.FAR_OFF) {
+            Check.due("outRow(" + far + ")", x.outRow(far), NONE);
+        }
+    }
+
+    static void outRowOfNoSuchRow() {
+        hasNoOtherRows(loadedFrom(0));
+    }
+
+    static void outRowOfNoSuchRowOfNothingLoaded() {
+        hasNoOtherRows(new VoyageKeeper());
+    }
+
+    static void outRowOfNoSuchRowWhenNoneIsKnown() {
+        VoyageKeeper x = chain(2);
+        x.spoil(0, 0);
+        x.replay(0, 1);
+        Check.due("outRow(0)", x.outRow(0), NONE);
+        hasNoOtherRows(x);
+    }
+
+    // "0 when nothing was loaded"
+
+    static void outRowOfNothingLoaded() {
+        VoyageKeeper x = new VoyageKeeper();
+        Ship.showRuns(x, 64);
+        x.second(1);
+        for (int row = 0; row < 8; row++) {
+            Check.due("outRow(" + row + ")", x.outRow(row), 0);
+        }
+    }
+
+    static void outRowOfNothingLoadedAfterARefusedReplay() {
+        VoyageKeeper x = chain(2);
+        x.spoil(0, 0);
+        Check.due("replay(0, 0)", x.replay(0, 0), NONE);
+        Check.due("outRow(0)", x.outRow(0), 0);
+    }
+
+    // "at first all cells are 0"
+
+    static void minuteWithoutPictures() {
         VoyageKeeper x = new VoyageKeeper();
         x.paint(2, 77);
-        x.second(3);
-        x.show();
-        x.second(5);
-        x.second(9);
-        x.second(10);
-        x.second(11);
+        x.second(1);
         x.replay(0, 0);
-        C.due("20 none up to it: all 0", x.outRow(2), 0);
-        x.replay(0, 5);
-        C.due("20 a bundle without a picture changes nothing", x.outRow(2), 77);
-        x.replay(0, 9);
-        C.due("20 nor does the next", x.outRow(2), 77);
-        x.replay(0, 10);
-        C.due("20 a new minute begins with 0", x.outRow(2), 0);
-        C.due("20 no such row", x.outRow(8), -1);
+        for (int row = 0; row < 8; row++) {
+            Check.due("outRow(" + row + ")", x.outRow(row), 0);
+        }
     }
 
-    /** Shows a picture of 64 runs, then one with one cell more changed in each second. */
+    static void pictureBehindTheSecondIsNotKnownYet() {
+        VoyageKeeper x = Ship.at(3);
+        Ship.showRuns(x, 64);
+        x.second(4);
+        x.replay(0, 0);
+        Check.due("outRow(0)", x.outRow(0), 0);
+    }
+
+    static void unreadablePictureBeforeLeavesAll0() {
+        VoyageKeeper x = new VoyageKeeper();
+        Ship.showRuns(x, 64);
+        x.second(1);
+        x.second(2);
+        x.spoil(0, 0);
+        x.replay(0, 1);
+        Check.due("outRow(0)", x.outRow(0), 0);
+    }
+
+    // "the store's readable bundles of the second's minute up to it"
+
+    static void pictureOfTheMinuteBeforeIsNotKnown() {
+        VoyageKeeper x = Ship.at(9);
+        Ship.showRuns(x, 64);
+        x.second(10);
+        x.second(11);
+        x.replay(0, 10);
+        Check.due("outRow(0)", x.outRow(0), 0);
+    }
+
+    static void pictureOfTheFirstSecondIsKnownInTheLastOfTheMinute() {
+        VoyageKeeper x = Ship.at(10);
+        Ship.showRuns(x, 64);
+        x.second(19);
+        x.second(20);
+        x.replay(0, 19);
+        Check.due("outRow(0)", x.outRow(0), STRIPES);
+    }
+
+    static void pictureOfAnotherStoreIsNotKnown() {
+        VoyageKeeper x = new VoyageKeeper();
+        Ship.showRuns(x, 64);
+        x.fail(1, true);
+        x.second(1);
+        x.fail(1, false);
+        x.show();
+        x.second(2);
+        x.replay(1, 1);
+        Check.due("outRow(0) from store 1", x.outRow(0), NONE);
+        x.replay(2, 1);
+        Check.due("outRow(0) from store 2", x.outRow(0), STRIPES);
+    }
+
+    static void picturesWhenTheStoreRolledOver() {
+        VoyageKeeper x = Ship.afterSeconds(38);
+        Ship.paintRuns(x, 64);
+        for (int t = 38; t < 46; t++) {
+            x.paint(0, t);
+            x.show();
+            x.second(t + 1);
+        }
+        for (int t = 38; t < 46; t++) {
+            x.replay(0, t);
+            Check.due("outRow(0) of " + t, x.outRow(0), t);
+        }
+    }
+
+    // "a raw picture, or one of runs, is known then"
+
+    static void rawPictureIsKnown() {
+        VoyageKeeper x = new VoyageKeeper();
+        Ship.showRuns(x, 64);
+        x.second(1);
+        x.replay(0, 0);
+        for (int row = 0; row < 8; row++) {
+            Check.due("outRow(" + row + ")", x.outRow(row), STRIPES);
+        }
+    }
+
+    static void pictureOfRunsIsKnown() {
+        VoyageKeeper x = new VoyageKeeper();
+        Ship.paintAll(x, 0x5555);
+        x.show();
+        x.second(1);
+        x.replay(0, 0);
+        for (int row = 0; row < 8; row++) {
+            Check.due("outRow(" + row + ")", x.outRow(row), 0x5555);
+        }
+    }
+
+    // "one of changes is known then, if the picture against which it was coded was known just before, else none is"
+
+    /** Shows the stripes at second 0, on pages 0 and 1, and with another row 0 on one page at each next second. */
     private static VoyageKeeper chain(int seconds) {
         VoyageKeeper x = new VoyageKeeper();
         Ship.paintRuns(x, 64);
@@ -141,117 +496,191 @@ public final class ReplayTest {
         return x;
     }
 
-    private static void rowsOfChanges() {
-        VoyageKeeper x = chain(5);
-        for (int t = 0; t < 5; t++) {
-            C.due("15 second " + t, x.replay(0, t), 0);
-            C.due("20 row 0 of second " + t, x.outRow(0), t);
+    static void eachOfAChainIsKnown() {
+        VoyageKeeper x = chain(10);
+        Check.due("free(0)", x.free(0), 29);
+        for (int t = 0; t < 10; t++) {
+            x.replay(0, t);
+            Check.due("outRow(0) of " + t, x.outRow(0), t);
+            Check.due("outRow(7) of " + t, x.outRow(7), STRIPES);
         }
-        // Second 0 has pages 0 and 1, and each other second one page more.
+    }
+
+    static void firstOfAChainIsUnreadable() {
+        VoyageKeeper x = chain(3);
+        x.spoil(0, 1);
+        x.replay(0, 1);
+        for (int row = 0; row < 8; row++) {
+            Check.due("outRow(" + row + ")", x.outRow(row), NONE);
+        }
+    }
+
+    static void oneOfAChainIsUnreadable() {
+        VoyageKeeper x = chain(5);
         x.spoil(0, 3);
         x.replay(0, 1);
-        C.due("20 before the gap", x.outRow(0), 1);
+        Check.due("before it", x.outRow(0), 1);
         x.replay(0, 3);
-        C.due("20 its base is unreadable", x.outRow(0), -1);
-        C.due("20 nor any other row", x.outRow(7), -1);
-        C.due("20 no such row", x.outRow(8), -1);
+        Check.due("just behind it", x.outRow(0), NONE);
         x.replay(0, 4);
-        C.due("20 nor what is coded against that", x.outRow(0), -1);
-        x.replay(1, 4);
-        C.due("20 another store knows it", x.outRow(0), 4);
-        x.second(6);
-        x.replay(0, 5);
-        C.due("20 no picture: still none known", x.outRow(0), -1);
+        Check.due("farther behind it", x.outRow(0), NONE);
+    }
+
+    static void firstOfAChainWasTakenOut() {
+        VoyageKeeper x = chain(2);
+        Ship.closeSeconds(x, 8);
+        Check.due("kept(2, false)", x.kept(2, false), 1);
+        x.replay(2, 1);
+        Check.due("outRow(0) from store 2", x.outRow(0), NONE);
+        x.replay(1, 1);
+        Check.due("outRow(0) from store 1", x.outRow(0), 1);
+    }
+
+    static void pictureAgainstOneThatNoStoreGot() {
+        VoyageKeeper x = new VoyageKeeper();
+        Ship.showRuns(x, 64);
+        Ship.failAll(x, true);
+        x.second(1);
+        Ship.failAll(x, false);
+        x.show();
+        x.second(2);
+        x.replay(0, 1);
+        Check.due("outRow(0)", x.outRow(0), NONE);
+    }
+
+    static void pictureKnownBeforeIsNotTheOneCodedAgainst() {
+        VoyageKeeper x = chain(3);
+        x.spoil(0, 2);
+        x.replay(0, 2);
+        Check.due("outRow(0)", x.outRow(0), NONE);
+    }
+
+    /** The document's words are taken so: the picture is that of a second, whatever another one is like. */
+    static void likePictureOfAnotherSecondIsNotTheOneCodedAgainst() {
+        VoyageKeeper x = new VoyageKeeper();
+        Ship.paintRuns(x, 64);
+        for (int t = 1; t <= 3; t++) {
+            x.show();
+            x.second(t);
+        }
+        x.spoil(0, 2);
+        Check.no("has(0, 1)", x.has(0, 1));
+        x.replay(0, 2);
+        Check.due("outRow(0)", x.outRow(0), NONE);
+    }
+
+    static void runsBehindAGapAreKnown() {
+        VoyageKeeper x = chain(3);
+        x.spoil(0, 0);
         Ship.paintAll(x, 0x5555);
         x.show();
-        x.second(7);
-        x.replay(0, 6);
-        C.due("20 runs are known again", x.outRow(0), 0x5555);
-        VoyageKeeper y = chain(3);
-        y.spoil(0, 1);
-        y.replay(0, 1);
-        C.due("20 the first is unreadable", y.outRow(0), -1);
+        x.second(4);
+        x.replay(0, 3);
+        Check.due("outRow(0)", x.outRow(0), 0x5555);
     }
 
-    /** Of codings that take the same, the first is used, so that no other picture is needed. */
-    private static void rowsOfRunsAndTies() {
-        VoyageKeeper x = new VoyageKeeper();
-        x.show();
-        x.second(1);
-        x.paint(7, 0xc000);
-        x.show();
-        x.second(2);
+    static void rawBehindAGapIsKnown() {
+        VoyageKeeper x = chain(3);
         x.spoil(0, 0);
-        C.due("15 readable", x.replay(0, 1), 0);
-        C.due("20 runs before changes", x.outRow(7), 0xc000);
-        C.due("20 15 changes are less than raw", rowAfterChanges(0x3333, 0x0733), -1);
-        C.due("20 raw before 16 changes", rowAfterChanges(0x3333, 0xf333), 0x9999 ^ 0x3333);
-        C.due("20 raw before 17 changes", rowAfterChanges(0x3333, 0xd333), 0x9999 ^ 0x3333);
+        Ship.paintAll(x, 0x1b1b);
+        x.show();
+        x.second(4);
+        x.replay(0, 3);
+        Check.due("outRow(0)", x.outRow(0), 0x1b1b);
     }
 
-    /** Row 0 of a picture whose first two rows are other than in the former one, which is spoiled. */
-    private static int rowAfterChanges(int row0, int row1) {
-        VoyageKeeper x = new VoyageKeeper();
-        Ship.paintRuns(x, 64);
+    static void changesBehindAPictureKnownAgain() {
+        VoyageKeeper x = chain(3);
+        x.spoil(0, 0);
+        Ship.paintAll(x, 0x1b1b);
         x.show();
-        x.second(1);
-        x.paint(0, 0x9999 ^ row0);
-        x.paint(1, 0x9999 ^ row1);
+        x.second(4);
+        x.paint(0, 9);
         x.show();
-        x.second(2);
+        x.second(5);
+        x.replay(0, 4);
+        Check.due("outRow(0)", x.outRow(0), 9);
+        Check.due("outRow(1)", x.outRow(1), 0x1b1b);
+    }
+
+    // "a bundle without a picture changes nothing"
+
+    static void noPictureLeavesOneKnown() {
+        VoyageKeeper x = chain(2);
+        x.second(5);
+        x.second(6);
+        x.replay(0, 5);
+        Check.due("outRow(0)", x.outRow(0), 1);
+    }
+
+    static void noPictureLeavesNoneKnown() {
+        VoyageKeeper x = chain(2);
+        x.second(5);
+        x.spoil(0, 0);
+        x.replay(0, 2);
+        Check.due("outRow(0)", x.outRow(0), NONE);
+    }
+
+    static void changesOverASecondWithoutAPicture() {
+        VoyageKeeper x = chain(2);
+        x.second(3);
+        x.paint(0, 7);
+        x.show();
+        x.second(4);
+        x.replay(0, 3);
+        Check.due("outRow(0)", x.outRow(0), 7);
+    }
+
+    static void unreadableSecondWithoutAPictureBetween() {
+        VoyageKeeper x = chain(2);
+        x.second(3);
+        x.show();
+        x.second(4);
+        x.spoil(0, 3);
+        Check.no("has(0, 2)", x.has(0, 2));
+        x.replay(0, 3);
+        Check.due("outRow(0)", x.outRow(0), 1);
+    }
+
+    // "A row of the picture that was known at the loading"
+
+    static void pictureStaysWhenItsPagesAreSpoiled() {
+        VoyageKeeper x = chain(3);
+        x.replay(0, 2);
+        x.spoil(0, 0);
+        x.spoil(0, 3);
+        Check.due("outRow(0)", x.outRow(0), 2);
+    }
+
+    static void pictureStaysWhenItsBundlesAreTakenOut() {
+        VoyageKeeper x = chain(3);
+        x.replay(2, 2);
+        Ship.closeSeconds(x, 30);
+        Check.due("outRow(0)", x.outRow(0), 2);
+    }
+
+    static void pictureStaysUnknownWhenAnotherIsWritten() {
+        VoyageKeeper x = chain(2);
         x.spoil(0, 0);
         x.replay(0, 1);
-        return x.outRow(0);
-    }
-
-    private static void rowsOfAnotherMinute() {
-        VoyageKeeper x = new VoyageKeeper();
-        x.second(9);
-        Ship.paintRuns(x, 64);
-        x.show();
-        x.second(10);
-        x.show();
-        x.second(11);
-        x.spoil(0, 1);
-        x.spoil(0, 2);
-        x.replay(0, 10);
-        C.due("20 not coded against another minute", x.outRow(3), 0x9999);
-    }
-
-    private static void likePictureIsNotTheBase() {
-        VoyageKeeper x = new VoyageKeeper();
-        Ship.paintRuns(x, 64);
-        x.show();
-        x.second(1);
-        x.show();
-        x.second(2);
+        Ship.paintAll(x, 0x5555);
         x.show();
         x.second(3);
-        x.spoil(0, 2);
-        C.no("14 second 1 is unreadable", x.has(0, 1));
-        x.replay(0, 2);
-        C.due("20 the base is the picture of second 1", x.outRow(0), -1);
+        Check.due("outRow(0)", x.outRow(0), NONE);
     }
 
-    private static void formerPictureOfAllStores() {
-        VoyageKeeper x = new VoyageKeeper();
-        Ship.paintRuns(x, 64);
-        for (int store = 0; store < 3; store++) {
-            x.fail(store, true);
-        }
-        x.show();
-        x.second(1);
-        for (int store = 0; store < 3; store++) {
-            x.fail(store, false);
-        }
-        x.show();
-        x.second(2);
-        C.due("7 coded against a picture that no store has", x.free(0), 39);
+    static void paintingLeavesTheLoadedPicture() {
+        VoyageKeeper x = chain(2);
         x.replay(0, 1);
-        C.due("20 which is not known", x.outRow(0), -1);
+        Ship.paintAll(x, 0x5555);
+        Check.due("outRow(0)", x.outRow(0), 1);
+        Check.due("outRow(1)", x.outRow(1), STRIPES);
     }
 
-    private static void finding() {
+    // Promise 21: "The least second, from some on, of which a store has a readable bundle with a sentence of a source"
+
+    /** Second 0 with sources 0 and 2, second 4 with source 1, second 6 with source 2 and 3, all on one page. */
+    private static VoyageKeeper withSources() {
         VoyageKeeper x = new VoyageKeeper();
         x.sentence(0, 65);
         x.sentence(2, 65);
@@ -259,22 +688,116 @@ public final class ReplayTest {
         x.sentence(1, 65);
         x.second(6);
         x.sentence(2, 65);
+        x.sentence(3, 65);
         x.second(8);
-        C.due("21 from below 0", x.find(0, 2, Integer.MIN_VALUE), 0);
-        C.due("21 from 0", x.find(0, 2, 0), 0);
-        C.due("21 from 1", x.find(0, 2, 1), 6);
-        C.due("21 from 6", x.find(0, 2, 6), 6);
-        C.due("21 from 7", x.find(0, 2, 7), -1);
-        C.due("21 from far away", x.find(0, 2, Integer.MAX_VALUE), -1);
-        C.due("21 source 1", x.find(2, 1, 0), 4);
-        C.due("21 source 3", x.find(0, 3, 0), -1);
-        C.due("21 no source -1", x.find(0, -1, 0), -1);
-        C.due("21 no source 4", x.find(0, 4, 0), -1);
-        C.due("21 no store", x.find(3, 2, 0), -1);
-        C.due("21 no store -1", x.find(-1, 2, 0), -1);
+        return x;
+    }
+
+    static void findFromTheSecondItself() {
+        VoyageKeeper x = withSources();
+        Check.due("find(0, 2, 0)", x.find(0, 2, 0), 0);
+        Check.due("find(0, 1, 4)", x.find(0, 1, 4), 4);
+        Check.due("find(0, 2, 6)", x.find(0, 2, 6), 6);
+    }
+
+    static void findFromOneBehindTheSecond() {
+        VoyageKeeper x = withSources();
+        Check.due("find(0, 2, 1)", x.find(0, 2, 1), 6);
+        Check.due("find(0, 1, 5)", x.find(0, 1, 5), NONE);
+        Check.due("find(0, 2, 7)", x.find(0, 2, 7), NONE);
+    }
+
+    static void findFromBelow0() {
+        VoyageKeeper x = withSources();
+        Check.due("find(0, 2, -1)", x.find(0, 2, -1), 0);
+        Check.due("find(0, 1, MIN)", x.find(0, 1, Integer.MIN_VALUE), 4);
+    }
+
+    static void findFromFarAhead() {
+        VoyageKeeper x = withSources();
+        Check.due("find(0, 2, 10000)", x.find(0, 2, 10000), NONE);
+        Check.due("find(0, 2, MAX)", x.find(0, 2, Integer.MAX_VALUE), NONE);
+    }
+
+    static void findOfEachSentenceOfASecond() {
+        VoyageKeeper x = new VoyageKeeper();
+        Ship.say(x, 1, 1, 1, 1);
+        x.second(1);
+        for (int source = 0; source < 4; source++) {
+            Check.due("find(0, " + source + ", 0)", x.find(0, source, 0), 0);
+        }
+    }
+
+    static void findInEachStore() {
+        VoyageKeeper x = withSources();
+        for (int store = 0; store < 3; store++) {
+            Check.due("find(" + store + ", 3, 0)", x.find(store, 3, 0), 6);
+        }
+    }
+
+    static void findPassesUnreadableBundles() {
+        VoyageKeeper x = withSources();
         x.spoil(0, 0);
-        C.due("21 only readable ones", x.find(0, 2, 0), 6);
-        C.due("21 another store", x.find(1, 2, 0), 0);
-        C.due("16 nothing is loaded by it", x.outSentence(0), 0);
+        Check.due("find(0, 2, 0)", x.find(0, 2, 0), 6);
+        Check.due("find(1, 2, 0)", x.find(1, 2, 0), 0);
+        x.spoil(0, 2);
+        Check.due("find(0, 2, 0) without second 6", x.find(0, 2, 0), NONE);
+    }
+
+    static void findPassesBundlesWithAnySpoiledPage() {
+        VoyageKeeper x = new VoyageKeeper();
+        Ship.fillFivePages(x);
+        x.second(1);
+        x.spoil(0, 4);
+        Check.due("find(0, 0, 0)", x.find(0, 0, 0), NONE);
+    }
+
+    static void findWhenTheStoreRolledOver() {
+        VoyageKeeper x = new VoyageKeeper();
+        for (int t = 1; t <= 15; t++) {
+            x.sentence(1, 65);
+            x.second(t);
+        }
+        Check.due("find(2, 1, 0)", x.find(2, 1, 0), 5);
+        Check.due("find(2, 1, 12)", x.find(2, 1, 12), 12);
+    }
+
+    // "NONE when there is none"
+
+    static void findOfASourceThatSaidNothing() {
+        VoyageKeeper x = new VoyageKeeper();
+        x.sentence(1, 65);
+        x.second(1);
+        Check.due("find(0, 0, 0)", x.find(0, 0, 0), NONE);
+        Check.due("find(0, 3, 0)", x.find(0, 3, 0), NONE);
+    }
+
+    static void findOfNoSuchSource() {
+        VoyageKeeper x = withSources();
+        Check.due("find(0, -1, 0)", x.find(0, -1, 0), NONE);
+        Check.due("find(0, 4, 0)", x.find(0, 4, 0), NONE);
+        for (int far : Ship.FAR_OFF) {
+            Check.due("find(0, " + far + ", 0)", x.find(0, far, 0), NONE);
+        }
+    }
+
+    static void findInNoSuchStore() {
+        VoyageKeeper x = withSources();
+        for (int store : NO_STORES) {
+            Check.due("find(" + store + ", 2, 0)", x.find(store, 2, 0), NONE);
+        }
+    }
+
+    static void findInTheSecondUnderWay() {
+        VoyageKeeper x = new VoyageKeeper();
+        x.sentence(0, 65);
+        Check.due("find(0, 0, 0)", x.find(0, 0, 0), NONE);
+    }
+
+    static void findWithPowerOff() {
+        VoyageKeeper x = withSources();
+        x.cutAfter(0);
+        x.second(9);
+        Check.due("find(0, 2, 1)", x.find(0, 2, 1), 6);
     }
 }

@@ -51,6 +51,10 @@ final class SlowKeeper {
         }
     }
 
+    int now() {
+        return draft.time;
+    }
+
     private static boolean in(long value, long low, long high) {
         return low <= value && value <= high;
     }
