@@ -248,6 +248,16 @@ public final class PowerTest {
         Check.due("free(0)", x.free(0), 2);
     }
 
+    static void bundlesTakenOutAreGoneWhenTheFirstPageIsCut() {
+        VoyageKeeper x = Ship.afterSeconds(40);
+        Ship.fillTwoPages(x);
+        x.cutAfter(0);
+        x.second(41);
+        Check.due("kept(0, false)", x.kept(0, false), 2);
+        Check.due("kept(0, true)", x.kept(0, true), 39);
+        Check.due("free(0)", x.free(0), 2);
+    }
+
     // "pages of the bundle that is not whole are free"
 
     static void bundleThatIsNotWholeIsNotKept() {
